@@ -1622,11 +1622,20 @@ public final class WordWright {
                 int here = countCase();
                 found += here;
                 int letters = length[0] + length[1] + length[2] + length[3];
-                if (here > 0 && letters < fewest) {
+                if (here > 0 && (letters < fewest || letters == fewest && isGuessBefore())) {
                     fewest = letters;
                     System.arraycopy(guess, 0, first, 0, VARIABLES);
                 }
             }
+        }
+
+        private boolean isGuessBefore() {
+            for (int v = 0; v < VARIABLES; v++) {
+                if (guess[v] != first[v]) {
+                    return guess[v] < first[v];
+                }
+            }
+            return false;
         }
 
         private void allow(Equations system, Language[] languages) {
@@ -1643,10 +1652,9 @@ public final class WordWright {
             }
         }
 
-        // The VARIABLE 0 tells most of the number, so that cases of as many letters come in the order of SOLUTIONS.
         private void begin(int number) {
             int left = number;
-            for (int v = VARIABLES - 1; v >= 0; v--) {
+            for (int v = 0; v < VARIABLES; v++) {
                 length[v] = left % LENGTHS;
                 left /= LENGTHS;
             }
