@@ -24,16 +24,25 @@ final class Check {
         }
     }
 
-    /** The call throws just that. */
-    static void thrown(Class<? extends RuntimeException> want, String what, Call call) {
+    /** The call throws just that, no class below it (as the machine would), and changes nothing. */
+    static void refused(WordWright x, Class<? extends RuntimeException> want, String what, Call call) {
+        String before = state(x);
         due("throws " + want.getSimpleName(), what, call);
+        due(before, "what can be asked after " + what, () -> state(x));
+    }
+
+    private static String state(WordWright x) {
+        StringBuilder all = new StringBuilder().append(x.digest()).append(' ').append(x.solutions());
+        for (int m = 0; m < x.many(1); m++) {
+            all.append(' ').append(x.breaks(m, 1, 0));
+        }
+        return all.append(' ').append(x.meanSize()).toString();
     }
 
     static Object answer(Call call) {
         try {
             return normal(call.go());
         } catch (RuntimeException e) {
-            // A class below the named one is one that the machine threw.
             return "throws " + e.getClass().getSimpleName();
         }
     }
@@ -44,6 +53,43 @@ final class Check {
 
     private static Object normal(Object value) {
         return value instanceof Integer ? (Object) ((Integer) value).longValue() : value;
+    }
+
+    /** The number of a WORD that is written out. */
+    static int word(String letters) {
+        int number = 1;
+        for (char c : letters.toCharArray()) {
+            number = 4 * number + (c - '0');
+        }
+        return number;
+    }
+
+    /** All WORDS up to a length, in order, written out. */
+    static String[] words(int longest) {
+        String[] all = new String[((4 << 2 * longest) - 1) / 3];
+        all[0] = "";
+        for (int i = 1; i < all.length; i++) {
+            all[i] = all[(i - 1) / 4] + (i - 1) % 4;
+        }
+        return all;
+    }
+
+    /** The LANGUAGE of one WORD, which has a LETTER at least; the LANGUAGES 2 to 5 are the LETTERS. */
+    static int single(WordWright x, String letters) {
+        int language = 2 + letters.charAt(0) - '0';
+        for (int i = 1; i < letters.length(); i++) {
+            language = x.make(4, language, 2 + letters.charAt(i) - '0');
+        }
+        return language;
+    }
+
+    /** A new object whose LANGUAGES 2 to 5 are the LETTERS. */
+    static WordWright lettered() {
+        WordWright x = new WordWright();
+        for (int letter = 0; letter < 4; letter++) {
+            x.make(2, letter, 0);
+        }
+        return x;
     }
 
     /** Ends the test. */
