@@ -90,7 +90,7 @@ public final class WordWright {
     // ---- languages
 
     /** MAKES a LANGUAGE of a KIND; answers its number. */
-    public int make(int kind, int a, int b) {
+    public int make(int kind, int a, int b) throws IllegalArgumentException, IllegalStateException {
         if (!canName(kind, a, b)) {
             throw new IllegalArgumentException("no such KIND, or no such a or b for it");
         }
@@ -110,7 +110,7 @@ public final class WordWright {
     }
 
     /** What is to be told of a LANGUAGE: SIZE, STATES, least WORD, endlessness, longest WORD, LETTERS. */
-    public int ofLanguage(int language, int what) {
+    public int ofLanguage(int language, int what) throws IndexOutOfBoundsException, IllegalArgumentException {
         if (!isLanguage(language)) {
             throw new IndexOutOfBoundsException("no such LANGUAGE");
         }
@@ -121,7 +121,7 @@ public final class WordWright {
     }
 
     /** The STATE to which one comes from a STATE by a LETTER. */
-    public int next(int language, int state, int letter) {
+    public int next(int language, int state, int letter) throws IndexOutOfBoundsException {
         if (!isLanguage(language)) {
             throw new IndexOutOfBoundsException("no such LANGUAGE");
         }
@@ -132,7 +132,7 @@ public final class WordWright {
     }
 
     /** Whether a WORD is in a LANGUAGE. */
-    public boolean has(int language, int word) {
+    public boolean has(int language, int word) throws IndexOutOfBoundsException, IllegalArgumentException {
         if (!isLanguage(language)) {
             throw new IndexOutOfBoundsException("no such LANGUAGE");
         }
@@ -143,7 +143,7 @@ public final class WordWright {
     }
 
     /** How many WORDS with just so many LETTERS a LANGUAGE has. */
-    public int howMany(int language, int letters) {
+    public int howMany(int language, int letters) throws IndexOutOfBoundsException, IllegalArgumentException {
         if (!isLanguage(language)) {
             throw new IndexOutOfBoundsException("no such LANGUAGE");
         }
@@ -154,7 +154,7 @@ public final class WordWright {
     }
 
     /** The least WORD that is in the first LANGUAGE, and not in the other one; 0 without one. */
-    public int beyond(int one, int other) {
+    public int beyond(int one, int other) throws IndexOutOfBoundsException, ArithmeticException {
         if (!isLanguage(one) || !isLanguage(other)) {
             throw new IndexOutOfBoundsException("no such LANGUAGE");
         }
@@ -168,7 +168,7 @@ public final class WordWright {
     // ---- machines
 
     /** Adds a MACHINE without ARCS; answers its number. */
-    public int machine() {
+    public int machine() throws IllegalStateException {
         if (machineCount >= MOST_MACHINES) {
             throw new IllegalStateException("there are 6 MACHINES");
         }
@@ -177,7 +177,8 @@ public final class WordWright {
     }
 
     /** Adds an ARC to a MACHINE; answers its number. */
-    public int arc(int machine, int from, int letter, int to, int out) {
+    public int arc(int machine, int from, int letter, int to, int out)
+            throws IndexOutOfBoundsException, IllegalArgumentException, IllegalStateException {
         if (!isMachine(machine)) {
             throw new IndexOutOfBoundsException("no such MACHINE");
         }
@@ -196,7 +197,7 @@ public final class WordWright {
     }
 
     /** Tells the FINAL STATES of a MACHINE; answers those before. */
-    public int finals(int machine, int finals) {
+    public int finals(int machine, int finals) throws IndexOutOfBoundsException, IllegalArgumentException {
         if (!isMachine(machine)) {
             throw new IndexOutOfBoundsException("no such MACHINE");
         }
@@ -210,7 +211,7 @@ public final class WordWright {
     }
 
     /** The k-th of the WORDS that a MACHINE writes for a WORD; 0 without one. */
-    public int writes(int machine, int word, int k) {
+    public int writes(int machine, int word, int k) throws IndexOutOfBoundsException, IllegalArgumentException {
         if (!isMachine(machine)) {
             throw new IndexOutOfBoundsException("no such MACHINE");
         }
@@ -221,7 +222,7 @@ public final class WordWright {
     }
 
     /** The least WORD with so many LETTERS at most for which a MACHINE writes several; 0 without one. */
-    public int several(int machine, int letters) {
+    public int several(int machine, int letters) throws IndexOutOfBoundsException, IllegalArgumentException {
         if (!isMachine(machine)) {
             throw new IndexOutOfBoundsException("no such MACHINE");
         }
@@ -232,7 +233,7 @@ public final class WordWright {
     }
 
     /** The first (0) or second (1) WORD of the first LOOP of a MACHINE; 0 without a LOOP. */
-    public int loop(int machine, int what) {
+    public int loop(int machine, int what) throws IndexOutOfBoundsException, IllegalArgumentException {
         if (!isMachine(machine)) {
             throw new IndexOutOfBoundsException("no such MACHINE");
         }
@@ -243,7 +244,7 @@ public final class WordWright {
     }
 
     /** The least WORD of one LANGUAGE for which a MACHINE writes what is not in the other one; 0 without one. */
-    public int breaks(int machine, int from, int to) {
+    public int breaks(int machine, int from, int to) throws IndexOutOfBoundsException, ArithmeticException {
         if (!isMachine(machine) || !isLanguage(from) || !isLanguage(to)) {
             throw new IndexOutOfBoundsException("no such MACHINE, or LANGUAGE");
         }
@@ -257,7 +258,7 @@ public final class WordWright {
     // ---- equations
 
     /** Tells the LANGUAGE and the MOST of a VARIABLE; answers its MOST before. */
-    public int domain(int variable, int language, int most) {
+    public int domain(int variable, int language, int most) throws IndexOutOfBoundsException, IllegalArgumentException {
         if (!isVariable(variable)) {
             throw new IndexOutOfBoundsException("no such VARIABLE");
         }
@@ -268,7 +269,7 @@ public final class WordWright {
     }
 
     /** Adds an EQUATION of two BLANK SIDES; answers its number. */
-    public int equation() {
+    public int equation() throws IllegalStateException {
         if (equations.count >= MOST_EQUATIONS) {
             throw new IllegalStateException("there are 4 EQUATIONS");
         }
@@ -276,7 +277,8 @@ public final class WordWright {
     }
 
     /** Adds a SYMBOL at the end of a SIDE; answers how many the SIDE has then. */
-    public int symbol(int equation, int side, int symbol) {
+    public int symbol(int equation, int side, int symbol)
+            throws IndexOutOfBoundsException, IllegalArgumentException, IllegalStateException {
         if (equation < 0 || equation >= equations.count) {
             throw new IndexOutOfBoundsException("no such EQUATION");
         }
@@ -293,7 +295,7 @@ public final class WordWright {
     }
 
     /** Takes the last EQUATION away; answers how many there are then. */
-    public int undo() {
+    public int undo() throws IllegalStateException {
         if (equations.count == 0) {
             throw new IllegalStateException("there is no EQUATION");
         }
@@ -301,7 +303,7 @@ public final class WordWright {
     }
 
     /** The WORD of a VARIABLE in the first SOLUTION; 0 without one. */
-    public int solved(int variable) {
+    public int solved(int variable) throws IndexOutOfBoundsException {
         if (!isVariable(variable)) {
             throw new IndexOutOfBoundsException("no such VARIABLE");
         }
@@ -318,7 +320,7 @@ public final class WordWright {
     // ---- schemas and documents
 
     /** Adds a SCHEMA; answers its number. */
-    public int schema() {
+    public int schema() throws IllegalStateException {
         if (schemas.count >= MOST_SCHEMAS) {
             throw new IllegalStateException("there are 4 SCHEMAS");
         }
@@ -327,7 +329,8 @@ public final class WordWright {
     }
 
     /** Tells what may be beneath a LETTER in a SCHEMA; answers the LANGUAGE before. */
-    public int beneath(int schema, int letter, int language) {
+    public int beneath(int schema, int letter, int language)
+            throws IndexOutOfBoundsException, IllegalArgumentException {
         if (!isSchema(schema) || !isLetter(letter)) {
             throw new IndexOutOfBoundsException("no such SCHEMA, or LETTER");
         }
@@ -340,7 +343,7 @@ public final class WordWright {
     }
 
     /** Adds a NODE beneath its PARENT, or begins the DOCUMENT anew; answers its number. */
-    public int node(int parent, int letter) {
+    public int node(int parent, int letter) throws IndexOutOfBoundsException, IllegalStateException {
         if (parent < NONE || parent >= schemas.nodes || !isLetter(letter)) {
             throw new IndexOutOfBoundsException("no such PARENT, or LETTER");
         }
@@ -351,7 +354,7 @@ public final class WordWright {
     }
 
     /** The first NODE that keeps the DOCUMENT from FITTING a SCHEMA; NONE, if it FITS. */
-    public int misfit(int schema) {
+    public int misfit(int schema) throws IndexOutOfBoundsException, IllegalStateException {
         if (!isSchema(schema)) {
             throw new IndexOutOfBoundsException("no such SCHEMA");
         }
@@ -362,7 +365,7 @@ public final class WordWright {
     }
 
     /** How many NODES the smallest DOCUMENT has that FITS, with a LETTER at the top; NONE without one. */
-    public int least(int schema, int letter) {
+    public int least(int schema, int letter) throws IndexOutOfBoundsException {
         if (!isSchema(schema) || !isLetter(letter)) {
             throw new IndexOutOfBoundsException("no such SCHEMA, or LETTER");
         }
@@ -371,7 +374,7 @@ public final class WordWright {
     }
 
     /** The first LETTER at the top of a DOCUMENT that FITS the first SCHEMA, and not the other; NONE without one. */
-    public int within(int one, int other) {
+    public int within(int one, int other) throws IndexOutOfBoundsException {
         if (!isSchema(one) || !isSchema(other)) {
             throw new IndexOutOfBoundsException("no such SCHEMA");
         }
@@ -381,7 +384,7 @@ public final class WordWright {
     // ---- programs
 
     /** Adds a STEP at the end of the PROGRAM; answers its number. */
-    public int step(int sort, int a, int b, int c) {
+    public int step(int sort, int a, int b, int c) throws IllegalArgumentException, IllegalStateException {
         if (!isStep(sort, a, b, c)) {
             throw new IllegalArgumentException("no such SORT, or no such a, b or c for it");
         }
@@ -400,7 +403,7 @@ public final class WordWright {
     }
 
     /** What is to be told of the SPAN of a STRING ahead of a STEP. */
-    public int span(int step, int string, int what) {
+    public int span(int step, int string, int what) throws IndexOutOfBoundsException, IllegalArgumentException {
         if (step < 0 || step > END || !isString(string)) {
             throw new IndexOutOfBoundsException("no such STEP, or STRING");
         }
@@ -412,7 +415,7 @@ public final class WordWright {
     }
 
     /** The least WORD for which a SINK is BAD (NONE, if it is too long); 0, if it is no SINK, or not BAD. */
-    public int bad(int step) {
+    public int bad(int step) throws IndexOutOfBoundsException {
         if (step < 0 || step >= program.count) {
             throw new IndexOutOfBoundsException("no such STEP");
         }
@@ -421,7 +424,7 @@ public final class WordWright {
     }
 
     /** How many there are of a sort of thing. */
-    public int many(int what) {
+    public int many(int what) throws IllegalArgumentException {
         if (what < 0 || what > 9) {
             throw new IllegalArgumentException("what is not 0 to 9");
         }
@@ -443,7 +446,7 @@ public final class WordWright {
     // ---- what would be (nothing is changed)
 
     /** The SIZE that make() would bring; 0, if it would have more than 10 STATES. */
-    public int wouldSize(int kind, int a, int b) {
+    public int wouldSize(int kind, int a, int b) throws IllegalArgumentException {
         if (!canName(kind, a, b)) {
             throw new IllegalArgumentException("no such KIND, or no such a or b for it");
         }
@@ -451,7 +454,7 @@ public final class WordWright {
     }
 
     /** How many SOLUTIONS there would be with another MOST of a VARIABLE. */
-    public int solutionsWith(int variable, int most) {
+    public int solutionsWith(int variable, int most) throws IndexOutOfBoundsException, IllegalArgumentException {
         if (!isVariable(variable)) {
             throw new IndexOutOfBoundsException("no such VARIABLE");
         }
@@ -1143,7 +1146,7 @@ public final class WordWright {
             }
         }
 
-        /** A state of it: the set of those of 'a' that are on their way; the first has a mark, as it is always an end. */
+        /** A state of it: the set of those of 'a' that are on their way; the first, always an end, has a mark. */
         boolean star(Language a, Language out) {
             int mark = 1 << MOST_STATES;
             draft.begin(mark | 1);
@@ -1308,7 +1311,7 @@ public final class WordWright {
             return leastBroken(copier, one, other);
         }
 
-        /** The least WORD of 'from' for which the MACHINE writes what is not in 'to'; 0 without one, NONE if too long. */
+        /** The least WORD of 'from' for which the MACHINE writes what is not in 'to'; 0 without one, NONE if long. */
         int leastBroken(Machine machine, Language from, Language to) {
             Arrays.fill(words, 0);
             queued = 0;
@@ -1414,7 +1417,8 @@ public final class WordWright {
             Arrays.fill(rounds, 0);
             for (int arc = 0; arc < machine.arcs; arc++) {
                 if (machine.from[arc] == state) {
-                    lower(rounds, roundPlace(machine, machine.to[arc], machine.isEnd(state)), LETTERS + machine.read[arc]);
+                    int place = roundPlace(machine, machine.to[arc], machine.isEnd(state));
+                    lower(rounds, place, LETTERS + machine.read[arc]);
                 }
             }
             for (int letters = 2; letters <= LOOP_PLACES; letters++) {
@@ -1587,7 +1591,8 @@ public final class WordWright {
 
     /**
      * Counts SOLUTIONS, case by case of how many LETTERS each VARIABLE has. In a case the EQUATIONS only say which
-     * letters of VARIABLES are the same, or are LETTERS that are known; VARIABLES that share none are free of each other.
+     * letters of VARIABLES are the same, or are LETTERS that are known; VARIABLES that share none are free of
+     * each other.
      */
     private static final class Solver {
         private static final int LENGTHS = MOST_OF_MOST + 1;
@@ -1765,7 +1770,7 @@ public final class WordWright {
             return false;
         }
 
-        /** How many ways there are for the VARIABLES of a team (1, if there are none); the first one comes into 'guess'. */
+        /** How many ways there are for the VARIABLES of a team (1, if it has none); the first comes into 'guess'. */
         private int countTeam(int number) {
             openLetters(number);
             int count = 0;
@@ -2080,7 +2085,7 @@ public final class WordWright {
             }
         }
 
-        /** Passes on what comes of an IF; both parts are of what it had, also if the first part comes to the IF itself. */
+        /** Passes on what comes of an IF; both parts are of what it had, also if the first comes to the IF itself. */
         private boolean passParts(int step, Language language, Workshop workshop) {
             Language part = passed[as[step]];
             whole.take(part);
