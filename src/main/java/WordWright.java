@@ -2028,11 +2028,15 @@ public final class WordWright {
                 rounds++;
                 changed = false;
                 for (int step = 0; step < count; step++) {
-                    if (came[step]) {
-                        take(step);
-                        changed |= sorts[step] == IF
-                                ? passParts(step, languages[bs[step]], workshop)
-                                : passOn(step, languages, machines, workshop);
+                    if (!came[step]) {
+                        continue;
+                    }
+                    take(step);
+                    boolean changes = sorts[step] == IF
+                            ? passParts(step, languages[bs[step]], workshop)
+                            : passOn(step, languages, machines, workshop);
+                    if (changes) {
+                        changed = true;
                     }
                 }
             }
