@@ -156,6 +156,7 @@ public final class EquationsTest {
         x.domain(0, x.make(7, 1, x.make(1, 0, 0)), 2);
         solutionIs(x, 6, "1", "", "1", "30");
         promise20LongSides();
+        promise20LongestWords();
     }
 
     private static int palindromes() {
@@ -182,6 +183,23 @@ public final class EquationsTest {
         equate(x, "w", "31");
         solutionIs(x, 25, "31", "31", "", "");
         equate(x, "wxwxwx", "313131");
+        solutionIs(x, 0);
+    }
+
+    private static void promise20LongestWords() {
+        WordWright x = Check.lettered();
+        int any = x.make(5, x.make(5, 2, 3), x.make(5, 4, 5));
+        int two = x.make(4, any, any);
+        for (int v = 0; v < 4; v++) {
+            x.domain(v, two, 2);
+        }
+        solutionIs(x, 65536, "00", "00", "00", "00");
+        equate(x, "wx", "yz");
+        equate(x, "w", "z");
+        solutionIs(x, 16, "00", "00", "00", "00");
+        x.domain(0, Check.single(x, "12"), 2);
+        solutionIs(x, 1, "12", "12", "12", "12");
+        x.domain(3, two, 1);
         solutionIs(x, 0);
     }
 

@@ -241,6 +241,15 @@ public final class MachinesTest {
         z.finals(0, 6);
         Check.due(Check.word("0"), "loop(0, 0)", () -> z.loop(0, 0));
         Check.due(Check.word("3"), "loop(0, 1)", () -> z.loop(0, 1));
+        // The same first WORD: the least second one.
+        z.arc(0, 0, 0, 1, 0);
+        Check.due(Check.word("0"), "loop(0, 0)", () -> z.loop(0, 0));
+        Check.due(Check.word("0"), "loop(0, 1)", () -> z.loop(0, 1));
+        z.arc(0, 0, 0, 3, 0);
+        z.arc(0, 3, 1, 3, 0);
+        z.finals(0, 12);
+        Check.due(Check.word("0"), "loop(0, 0)", () -> z.loop(0, 0));
+        Check.due(Check.word("1"), "loop(0, 1)", () -> z.loop(0, 1));
     }
 
     private static void promise14Breaks() {

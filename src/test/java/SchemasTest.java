@@ -127,6 +127,17 @@ public final class SchemasTest {
         x.beneath(0, 3, 1);
         x.beneath(0, 1, 0);
         leastIs(x, 0, 3, -1, -1, 1);
+        // Each LETTER needs the next one.
+        x.beneath(0, 0, 3);
+        x.beneath(0, 1, 4);
+        x.beneath(0, 2, 5);
+        x.beneath(0, 3, blank);
+        leastIs(x, 0, 4, 3, 2, 1);
+        x.beneath(0, 0, blank);
+        x.beneath(0, 1, 2);
+        x.beneath(0, 2, 3);
+        x.beneath(0, 3, 4);
+        leastIs(x, 0, 1, 2, 3, 4);
         Check.refused(x, INDEX, "least(1, 0)", () -> x.least(1, 0));
         Check.refused(x, INDEX, "least(-1, 0)", () -> x.least(-1, 0));
         Check.refused(x, INDEX, "least(0, 4)", () -> x.least(0, 4));
@@ -138,6 +149,36 @@ public final class SchemasTest {
             int l = letter;
             Check.due(want[letter], "least(" + schema + ", " + letter + ")", () -> x.least(schema, l));
         }
+    }
+
+    private static void promise26Chains() {
+        WordWright x = Check.lettered();
+        int blank = x.make(1, 0, 0);
+        for (int schema = 0; schema < 2; schema++) {
+            x.schema();
+            x.beneath(schema, 0, 3);
+            x.beneath(schema, 1, 4);
+            x.beneath(schema, 2, x.make(5, 5, blank));
+            x.beneath(schema, 3, blank);
+        }
+        Check.due(-1, "within(0, 1)", () -> x.within(0, 1));
+        x.beneath(0, 3, x.make(5, 5, blank));
+        Check.due(0, "within(0, 1) by a chain", () -> x.within(0, 1));
+        // A 1 goes astray; beneath a 0 it can only stand ahead of, or behind, what is not possible.
+        x.beneath(0, 3, 0);
+        x.beneath(0, 2, 0);
+        x.beneath(0, 1, blank);
+        x.beneath(1, 1, 0);
+        int ahead = x.make(5, blank, Check.single(x, "12"));
+        int both = x.make(5, ahead, Check.single(x, "21"));
+        for (int content : new int[] {ahead, both}) {
+            x.beneath(0, 0, content);
+            x.beneath(1, 0, content);
+            Check.due(1, "within(0, 1)", () -> x.within(0, 1));
+        }
+        x.beneath(0, 2, blank);
+        x.beneath(1, 2, blank);
+        Check.due(0, "within(0, 1), now that it is possible", () -> x.within(0, 1));
     }
 
     private static void promise26Within() {
@@ -172,6 +213,7 @@ public final class SchemasTest {
         x.beneath(0, 0, Check.single(x, "10"));
         x.beneath(1, 0, Check.single(x, "10"));
         Check.due(1, "within(0, 1)", () -> x.within(0, 1));
+        promise26Chains();
         Check.refused(x, INDEX, "within(2, 0)", () -> x.within(2, 0));
         Check.refused(x, INDEX, "within(0, 2)", () -> x.within(0, 2));
         Check.refused(x, INDEX, "within(-1, 0)", () -> x.within(-1, 0));
