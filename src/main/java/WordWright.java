@@ -1025,15 +1025,15 @@ public final class WordWright {
             }
             int groups = 0;
             for (int round = 0; round <= MOST_STATES; round++) {
-                int finer = split();
-                if (finer > MOST_STATES) {
+                int now = split();
+                if (now > MOST_STATES) {
                     return false;
                 }
-                if (finer == groups) {
+                if (now == groups) {
                     number(out);
                     return true;
                 }
-                groups = finer;
+                groups = now;
             }
             return false;
         }
@@ -1296,7 +1296,7 @@ public final class WordWright {
         private final int[] words = new int[PLACES];
         private final int[] queue = new int[PLACES];
         private int queued;
-        private final int[] leads = new int[LOOP_PLACES];
+        private final int[] leads = new int[MACHINE_STATES];
         private final int[] rounds = new int[LOOP_PLACES];
 
         Search() {
@@ -1473,7 +1473,7 @@ public final class WordWright {
             for (int length = 0; length <= letters; length++) {
                 int start = 1 << 2 * length;
                 for (int word = start; word < 2 * start; word++) {
-                    // What is behind the zeros at the end is as in the WORD before, but for one LETTER.
+                    // The WORD before differs only in the zeros at the end, and in the LETTER ahead of them.
                     int changed = 1 + Integer.numberOfTrailingZeros(word) / 2;
                     readFrom(machine, word, Math.max(0, length - changed));
                     if (hasSeveral(machine, length)) {
