@@ -31,6 +31,28 @@ final class Check {
         due(before, "what can be asked after " + what, () -> state(x));
     }
 
+    /** A call that is written out (as for Calls) answers that. */
+    static void due(WordWright x, Object want, String call) {
+        due(want, call, () -> Calls.answer(x, call));
+    }
+
+    /** Each of the calls throws just that behind the story, and then all is as it is without that call. */
+    static void refused(Story story, Class<? extends RuntimeException> want, String... calls) {
+        for (String call : calls) {
+            WordWright x = story.told();
+            due("throws " + want.getSimpleName(), call + ", " + story, () -> Calls.answer(x, call));
+            due(story.untouched(), "what can be found out after " + call + ", " + story, () -> Probe.of(x));
+        }
+    }
+
+    /** None of the calls throws behind the story. */
+    static void allowed(Story story, String... calls) {
+        for (String call : calls) {
+            String answer = String.valueOf(Calls.answer(story.told(), call));
+            isTrue(!answer.startsWith("throws"), call + ", " + story + ", is allowed, but " + answer);
+        }
+    }
+
     private static String state(WordWright x) {
         StringBuilder all = new StringBuilder().append(x.digest()).append(' ').append(x.solutions());
         for (int m = 0; m < x.many(1); m++) {

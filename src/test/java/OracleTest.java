@@ -75,8 +75,8 @@ public final class OracleTest {
                     queue(now);
                 }
             }
-            Object got = Check.answer(this::callProgram);
-            Object want = Check.answer(this::callOracle);
+            Object got = Calls.answer(x, name, args);
+            Object want = Calls.answer(o, name, args);
             history.append("\n  ").append(name).append(Arrays.toString(args)).append(" = ").append(got);
             if (!got.equals(want)) {
                 System.out.println("run " + seed + ", due is " + want + " at last:" + history);
@@ -242,83 +242,5 @@ public final class OracleTest {
 
     private int target() {
         return random.nextInt(3) == 0 ? up(11) : random.nextInt(Math.min(11, o.steps.size() + 1));
-    }
-
-    private Object callProgram() {
-        return switch (name) {
-            case "make" -> x.make(args[0], args[1], args[2]);
-            case "ofLanguage" -> x.ofLanguage(args[0], args[1]);
-            case "next" -> x.next(args[0], args[1], args[2]);
-            case "has" -> x.has(args[0], args[1]);
-            case "howMany" -> x.howMany(args[0], args[1]);
-            case "beyond" -> x.beyond(args[0], args[1]);
-            case "machine" -> x.machine();
-            case "arc" -> x.arc(args[0], args[1], args[2], args[3], args[4]);
-            case "finals" -> x.finals(args[0], args[1]);
-            case "writes" -> x.writes(args[0], args[1], args[2]);
-            case "several" -> x.several(args[0], args[1]);
-            case "loop" -> x.loop(args[0], args[1]);
-            case "breaks" -> x.breaks(args[0], args[1], args[2]);
-            case "domain" -> x.domain(args[0], args[1], args[2]);
-            case "equation" -> x.equation();
-            case "symbol" -> x.symbol(args[0], args[1], args[2]);
-            case "undo" -> x.undo();
-            case "solved" -> x.solved(args[0]);
-            case "solutions" -> x.solutions();
-            case "schema" -> x.schema();
-            case "beneath" -> x.beneath(args[0], args[1], args[2]);
-            case "node" -> x.node(args[0], args[1]);
-            case "misfit" -> x.misfit(args[0]);
-            case "least" -> x.least(args[0], args[1]);
-            case "within" -> x.within(args[0], args[1]);
-            case "step" -> x.step(args[0], args[1], args[2], args[3]);
-            case "clear" -> x.clear();
-            case "span" -> x.span(args[0], args[1], args[2]);
-            case "bad" -> x.bad(args[0]);
-            case "many" -> x.many(args[0]);
-            case "meanSize" -> x.meanSize();
-            case "wouldSize" -> x.wouldSize(args[0], args[1], args[2]);
-            case "solutionsWith" -> x.solutionsWith(args[0], args[1]);
-            default -> x.digest();
-        };
-    }
-
-    private Object callOracle() {
-        return switch (name) {
-            case "make" -> o.make(args[0], args[1], args[2]);
-            case "ofLanguage" -> o.ofLanguage(args[0], args[1]);
-            case "next" -> o.next(args[0], args[1], args[2]);
-            case "has" -> o.has(args[0], args[1]);
-            case "howMany" -> o.howMany(args[0], args[1]);
-            case "beyond" -> o.beyond(args[0], args[1]);
-            case "machine" -> o.machine();
-            case "arc" -> o.arc(args[0], args[1], args[2], args[3], args[4]);
-            case "finals" -> o.finals(args[0], args[1]);
-            case "writes" -> o.writes(args[0], args[1], args[2]);
-            case "several" -> o.several(args[0], args[1]);
-            case "loop" -> o.loop(args[0], args[1]);
-            case "breaks" -> o.breaks(args[0], args[1], args[2]);
-            case "domain" -> o.domain(args[0], args[1], args[2]);
-            case "equation" -> o.equation();
-            case "symbol" -> o.symbol(args[0], args[1], args[2]);
-            case "undo" -> o.undo();
-            case "solved" -> o.solved(args[0]);
-            case "solutions" -> o.solutions();
-            case "schema" -> o.schema();
-            case "beneath" -> o.beneath(args[0], args[1], args[2]);
-            case "node" -> o.node(args[0], args[1]);
-            case "misfit" -> o.misfit(args[0]);
-            case "least" -> o.least(args[0], args[1]);
-            case "within" -> o.within(args[0], args[1]);
-            case "step" -> o.step(args[0], args[1], args[2], args[3]);
-            case "clear" -> o.clear();
-            case "span" -> o.span(args[0], args[1], args[2]);
-            case "bad" -> o.bad(args[0]);
-            case "many" -> o.many(args[0]);
-            case "meanSize" -> o.meanSize();
-            case "wouldSize" -> o.wouldSize(args[0], args[1], args[2]);
-            case "solutionsWith" -> o.solutionsWith(args[0], args[1]);
-            default -> o.digest();
-        };
     }
 }
