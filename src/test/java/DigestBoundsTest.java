@@ -17,6 +17,7 @@ public final class DigestBoundsTest {
         aNewOne();
         wrapsAround();
         withoutANode();
+        ofEachMachine();
         changesNothing();
         Check.end("DigestBoundsTest");
     }
@@ -47,7 +48,7 @@ public final class DigestBoundsTest {
     private static void wrapsAround() {
         for (Story story : new Story[] {Story.empty(), Story.begun(), Story.full()}) {
             WordWright x = story.told();
-            BigInteger d = unwrapped(new DigestBoundsTest(x).asked());
+            BigInteger d = unwrapped(new DigestBoundsTest(story.told()).asked());
             Check.isTrue(d.bitLength() > 640, "d is beyond 64 bits time after time");
             BigInteger rest = d.mod(ROUND);
             long due = rest.testBit(63) ? rest.subtract(ROUND).longValueExact() : rest.longValueExact();
@@ -66,6 +67,23 @@ public final class DigestBoundsTest {
         List<Long> with = new DigestBoundsTest(x).asked();
         Check.due(without.size() + 2, "numbers with a NODE", with::size);
         Check.due(x, unwrapped(with).longValue(), "digest");
+    }
+
+    /** "several() of 2, loop() of 0 and 1, and writes() of the WORDS 1, 5, 22 and the numbers 0 and 1" */
+    private static void ofEachMachine() {
+        String[][] machines = {{"0 0 1 0", "1 0 2 0", "1 0 2 1"}, {"0 0 1 0", "1 0 2 0", "2 0 3 0", "2 0 3 1"},
+            {"0 1 1 0", "1 2 3 0", "1 2 3 1", "1 3 2 3", "0 1 2 2", "2 2 2 2"}, {"0 1 3 0", "0 1 3 1", "0 1 3 2", "0 0 3 3"}};
+        for (int finals = 1; finals <= 15; finals++) {
+            Story story = new Story("with MACHINES");
+            for (int m = 0; m < machines.length; m++) {
+                story.then("machine", "finals " + m + " " + finals);
+                for (String arc : machines[m]) {
+                    story.then("arc " + m + " " + arc);
+                }
+            }
+            long due = unwrapped(new DigestBoundsTest(story.told()).asked()).longValue();
+            Check.due(story.told(), due, "digest");
+        }
     }
 
     private static void changesNothing() {

@@ -11,6 +11,7 @@ public final class EquationBoundsTest {
         longestSides();
         undoToNone();
         orderOfSolutions();
+        lettersOfEachVariableCount();
         noSolution();
         fewestAndMostSolutions();
         promise34EachMost();
@@ -239,6 +240,24 @@ public final class EquationBoundsTest {
         add(x, 0, 11, 12, 13);
         add(x, 1, 3);
         solvedAre(x, 3 * 21, 1, 1, 1, 7);
+    }
+
+    /** Two LETTERS of the one, or one of the other: whichever of them comes first. */
+    private static void lettersOfEachVariableCount() {
+        for (int v = 0; v < 4; v++) {
+            for (int u = 0; u < 4; u++) {
+                if (u != v) {
+                    WordWright x = new WordWright();
+                    x.domain(v, 1, 2);
+                    x.equation();
+                    add(x, 0, 10 + v, 10 + u, 10 + u);
+                    add(x, 1, 3, 3);
+                    int[] words = {1, 1, 1, 1};
+                    words[u] = 7;
+                    solvedAre(x, 50, words);
+                }
+            }
+        }
     }
 
     /** "0 without one" */

@@ -11,6 +11,7 @@ public final class LanguageBoundsTest {
         noneComesTwice();
         oneStateToGoOnToByEachLetter();
         tenStatesAtMost();
+        asManyStatesOnTheWayAsThereCanBe();
         statesAreNumberedAsOneComesToThem();
         joinedWithNoneBlankAndAll();
         setsOfNoneAndAll();
@@ -19,6 +20,7 @@ public final class LanguageBoundsTest {
         headsHaveAllAndNone();
         machinesWithoutArcsOrFinals();
         outGoesOnWithoutWriting();
+        outGoesOnWithoutWritingForLong();
         intoGoesOnWithoutWriting();
         readNeedsAFinalState();
         threeHundredSetsAtMost();
@@ -215,6 +217,25 @@ public final class LanguageBoundsTest {
         tenAndEleven(x, "13 4 0", "13 5 0");
     }
 
+    /**
+     * On the way to what is JOINED there can be some 10 times 1000 STATES: with each STATE of what has a number of LETTERS
+     * that is 10, 20 .. , nearly each set of those of b, whose LETTERS turn its ten STATES round.
+     */
+    private static void asManyStatesOnTheWayAsThereCanBe() {
+        WordWright x = Check.lettered();
+        int any = x.make(5, x.make(5, 2, 3), x.make(5, 4, 5));
+        int two = x.make(4, any, any);
+        int five = x.make(4, x.make(4, two, two), any);
+        int tens = x.make(6, x.make(8, two, 0), x.make(8, five, 0));
+        int round = x.make(6, everyNth(x, 2, 2), everyNth(x, 3, 5));
+        Check.due(x, 10, "ofLanguage " + tens + " 0");
+        Check.due(x, 10, "ofLanguage " + round + " 0");
+        Check.due(x, 0, "wouldSize 4 " + tens + " " + round);
+        Check.due(x, "throws IllegalStateException", "make 4 " + tens + " " + round);
+        Check.due(x, 10, "wouldSize 8 " + tens + " 0");
+        Check.due(x, 10, "wouldSize 8 " + round + " 0");
+    }
+
     /** "0 is where it begins, then, STATE by STATE, those to which one comes by the LETTERS 0 to 3" */
     private static void statesAreNumberedAsOneComesToThem() {
         WordWright x = Check.lettered();
@@ -358,6 +379,24 @@ public final class LanguageBoundsTest {
         Check.due(x, 5, "make 11 1 1");
     }
 
+    /** Round by three STATES of the MACHINE, and ten of the LANGUAGE: what is read has 29 LETTERS at least. */
+    private static void outGoesOnWithoutWritingForLong() {
+        WordWright x = Check.lettered();
+        int any = x.make(5, x.make(5, 2, 3), x.make(5, 4, 5));
+        int two = x.make(4, any, any);
+        int four = x.make(4, two, two);
+        int five = x.make(4, four, any);
+        int tens = x.make(6, x.make(8, two, 0), x.make(8, five, 0));
+        int nines = x.make(4, x.make(4, tens, four), five);
+        Check.due(x, 10, "ofLanguage " + nines + " 0");
+        addArcs(x, 4, new int[][] {{0, 3, 1, -1}, {1, 3, 2, -1}, {2, 3, 0, -1}});
+        Check.due(x, x.make(1, 0, 0), "make 11 0 " + nines);
+        // With a fourth STATE behind, each of 40 PAIRS is there, or each second of them.
+        addArcs(x, 8, new int[][] {{0, 3, 1, -1}, {1, 3, 2, -1}, {2, 3, 3, -1}, {3, 3, 0, -1}});
+        Check.due(x, 2, "wouldSize 11 1 " + nines);
+        Check.due(x, 1, "wouldSize 11 1 " + tens);
+    }
+
     /** "by each LETTER to all to which ARCS lead that read that (the STATE of b goes on by the LETTER that is written, if one is)" */
     private static void intoGoesOnWithoutWriting() {
         WordWright x = Check.lettered();
@@ -394,6 +433,9 @@ public final class LanguageBoundsTest {
             "1 0 0 1|3 1 1 0|3 1 3 1|0 0 1 1|1 0 2 0|3 0 3 1|2 0 0 1|2 0 3 0|1 1 3 1|1 1 0 0", false);
         setsAreMade(12, "4 2 1|4 6 6|4 7 3|4 8 7", 9,
             "0 0 1 1|1 0 0 1|1 1 0 0|2 0 0 0|3 0 2 1|1 0 3 -1|0 1 3 -1|1 1 1 -1|0 1 2 1|0 1 1 -1", true);
+        // To that of both beginnings one comes again here: it is no different one.
+        setsAreMade(12, "4 3 3|4 1 2|4 6 7|4 6 6|5 8 9|8 10 0|4 8 9", 12,
+            "0 0 2 -1|2 1 0 1|0 1 0 -1|1 1 1 1|2 1 0 1|2 1 2 0|3 1 2 0|2 0 1 1|0 0 2 1|1 0 3 -1", true);
         setsAreMade(12, "4 3 2|4 6 6|5 7 2", 8,
             "0 0 0 1|1 1 1 1|0 2 2 1|3 0 1 0|1 0 1 1|3 2 2 -1|0 2 1 -1|2 0 0 -1|1 2 3 -1|2 2 0 -1", false);
     }
@@ -445,6 +487,10 @@ public final class LanguageBoundsTest {
         int five = x.make(4, x.make(4, two, two), any);
         int ring = x.make(6, x.make(8, two, 0), x.make(8, five, 0));
         factsAre(x, ring, 10, 1, 1, 1, -1, 15);
+        // WORDS of four LETTERS, and then of 11: more than its eight STATES.
+        int four = Check.single(x, "3333");
+        int sevens = x.make(8, x.make(4, four, Check.single(x, "333")), 0);
+        factsAre(x, x.make(4, four, sevens), 8, 1 << 5, Check.word("3333"), 1, -1, 8);
         Check.due(x, 1 << 20, "howMany " + ring + " 10");
     }
 
@@ -467,6 +513,12 @@ public final class LanguageBoundsTest {
             Check.due(x, 1 << letter, "ofLanguage " + (2 + letter) + " 5");
         }
         Check.due(x, 9, "ofLanguage " + x.make(5, 2, 5) + " 5");
+        Check.due(x, 15, "ofLanguage " + Check.single(x, "0123") + " 5");
+        Check.due(x, 15, "ofLanguage " + Check.single(x, "3210") + " 5");
+        Check.due(x, 6, "ofLanguage " + Check.single(x, "12") + " 5");
+        // Each LETTER behind the others is the last one by which one comes to a WORD.
+        Check.due(x, 9, "ofLanguage " + Check.single(x, "00000003") + " 5");
+        Check.due(x, 5, "ofLanguage " + Check.single(x, "20000000") + " 5");
         // A LETTER by which one comes to no WORD any more does not count.
         Check.due(x, 6, "ofLanguage " + x.make(8, Check.single(x, "12"), 0) + " 5");
         Check.due(x, 15, "ofLanguage " + x.make(7, 1, 5) + " 5");

@@ -19,9 +19,12 @@ public final class MachineBoundsTest {
         promise13FirstMayBeBlank();
         promise13FewestLettersInBoth();
         promise13LongestLoop();
+        promise13ArcsInAnyOrder();
+        promise13EachMachineByItself();
         promise14TenLetters();
         promise14NothingAndBlank();
         promise14WritesNothing();
+        promise14ArcsInAnyOrder();
         Check.end("MachineBoundsTest");
     }
 
@@ -271,6 +274,30 @@ public final class MachineBoundsTest {
         loopIs(machine(8, "0 3 1 0", "1 2 2 0", "2 1 3 0", "3 0 2 0"), "32", "10");
     }
 
+    /** The first ARC may be the last one on the way. */
+    private static void promise13ArcsInAnyOrder() {
+        loopIs(machine(8, "3 0 3 0", "2 1 3 0", "1 2 2 0", "0 3 1 0"), "321", "0");
+        loopIs(machine(1, "3 0 0 0", "2 1 3 0", "1 2 2 0", "0 3 1 0"), "", "3210");
+        loopIs(machine(2, "1 2 0 0", "0 3 1 0"), "", "32");
+        loopIs(machine(8, "2 3 2 0", "1 3 2 0", "1 0 2 0", "0 3 1 0", "0 2 1 0", "2 2 3 0", "3 3 2 0", "3 1 2 0"), "20", "21");
+    }
+
+    /** What one MACHINE can do does not count for another one. */
+    private static void promise13EachMachineByItself() {
+        WordWright x = machine(8, "0 0 1 0", "1 0 2 0", "2 0 3 0", "3 1 3 0");
+        loopIs(x, "000", "1");
+        x.machine();
+        x.arc(1, 3, 1, 3, 0);
+        x.arc(1, 2, 1, 2, 0);
+        x.finals(1, 12);
+        Check.due(x, 0, "loop 1 0");
+        Check.due(x, 0, "loop 1 1");
+        loopIs(x, "000", "1");
+        Check.due(x, 0, "writes 1 5 0");
+        Check.due(x, 0, "breaks 1 1 0");
+        Check.due(x, Check.word("000"), "breaks 0 1 0");
+    }
+
     /** "if the least one has more than 10 LETTERS": 9, 10 and 11 of them, and many more. */
     private static void promise14TenLetters() {
         WordWright x = machine(1, "0 3 0 3");
@@ -306,6 +333,17 @@ public final class MachineBoundsTest {
         Check.due(x, 0, "breaks 0 2 2");
         Check.due(x, 4, "breaks 0 2 3");
         Check.due(x, 0, "breaks 0 1 " + x.make(8, x.make(5, 2, 3), 0));
+    }
+
+    /** "the least WORD of the first one": also if the ARC by a greater LETTER has the first number. */
+    private static void promise14ArcsInAnyOrder() {
+        WordWright x = machine(2, "0 3 1 3", "0 2 1 3", "0 0 1 3", "0 1 1 3");
+        Check.due(x, 4, "breaks 0 1 0");
+        x = machine(2, "0 3 3 3", "0 2 2 3", "3 0 1 0", "2 1 1 0");
+        Check.due(x, Check.word("21"), "breaks 0 1 0");
+        x = machine(2, "0 3 3 3", "0 1 2 3", "2 3 1 0", "3 0 1 0", "1 0 0 0");
+        Check.due(x, Check.word("13"), "breaks 0 1 0");
+        Check.due(x, Check.word("30"), "breaks 0 " + x.make(4, 1, 2) + " 0");
     }
 
     /** "for which it writes something that is not in the other one": what is not written breaks nothing. */

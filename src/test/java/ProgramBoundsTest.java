@@ -450,6 +450,10 @@ public final class ProgramBoundsTest {
         Check.due(x, 2, "many 8");
         steps(x, step(ANY, 0, 2), go(0));
         Check.due(x, 2, "many 8");
+        steps(x, when(0, 6, END));
+        Check.due(x, 2, "many 8");
+        steps(x, when(0, 2, END));
+        Check.due(x, 2, "many 8");
         steps(x, step(SINK, 0, 2), go(2), step(ANY, 0, 2), go(1));
         Check.due(x, 3, "many 8");
     }

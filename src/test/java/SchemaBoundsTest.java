@@ -19,6 +19,7 @@ public final class SchemaBoundsTest {
         withinWithoutDocuments();
         withinItself();
         withinByTheBlankWordAlone();
+        withinByWhatIsInTheFirst();
         withinByFourLevels();
         withinByLongWords();
         Check.end("SchemaBoundsTest");
@@ -306,6 +307,22 @@ public final class SchemaBoundsTest {
             Check.due(x, letter, "within 0 1");
             x.beneath(0, letter, 6);
             Check.due(x, -1, "within 0 1");
+        }
+    }
+
+    /** What may be beneath a LETTER in the other one alone is in no DOCUMENT that FITS the first one. */
+    private static void withinByWhatIsInTheFirst() {
+        for (int one = 0; one < 4; one++) {
+            for (int other = 0; other < 4; other++) {
+                WordWright x = ready(4);
+                if (one != other) {
+                    beneathAre(x, one, 6, x.make(5, 6, 2), 0, 0);
+                    beneathAre(x, other, 1, 6, 1, 1);
+                    Check.due(x, 1, "within " + one + " " + other);
+                    x.beneath(one, 0, x.make(8, 3, 0));
+                    Check.due(x, 0, "within " + one + " " + other);
+                }
+            }
         }
     }
 
