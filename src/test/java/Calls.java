@@ -30,6 +30,15 @@ final class Calls {
         return args;
     }
 
+    /** How many calls it takes: one for each amount that stands in it, and itself. */
+    static int count(String call) {
+        int count = 1;
+        for (String word : call.split(" ")) {
+            count += AMOUNTS.containsKey(word.replace("-1", "")) ? 1 : 0;
+        }
+        return count;
+    }
+
     /** The same for WordWright and for the Oracle. */
     static Object answer(Object x, String name, int... args) {
         Method method = faceOf(x.getClass()).get(name + args.length);

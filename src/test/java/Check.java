@@ -26,9 +26,9 @@ final class Check {
 
     /** The call throws just that, no class below it (as the machine would), and changes nothing. */
     static void refused(WordWright x, Class<? extends RuntimeException> want, String what, Call call) {
-        String before = state(x);
+        long before = x.digest();
         due("throws " + want.getSimpleName(), what, call);
-        due(before, "what can be asked after " + what, () -> state(x));
+        due(before, "digest() after " + what, x::digest);
     }
 
     /** A call that is written out (as for Calls) answers that. */
@@ -39,9 +39,13 @@ final class Check {
     /** Each of the calls throws just that behind the story, and then all is as it is without that call. */
     static void refused(Story story, Class<? extends RuntimeException> want, String... calls) {
         for (String call : calls) {
-            WordWright x = story.told();
-            due("throws " + want.getSimpleName(), call + ", " + story, () -> Calls.answer(x, call));
-            due(story.untouched(), "what can be found out after " + call + ", " + story, () -> Probe.of(x));
+            String thrown = "throws " + want.getSimpleName();
+            due(thrown, call + ", " + story, () -> Calls.answer(story.told(), call));
+            due(story.untouched(), "what can be found out after " + call + ", " + story, () -> Probe.of(() -> {
+                WordWright x = story.told();
+                Calls.answer(x, call);
+                return x;
+            }));
         }
     }
 
@@ -51,14 +55,6 @@ final class Check {
             String answer = String.valueOf(Calls.answer(story.told(), call));
             isTrue(!answer.startsWith("throws"), call + ", " + story + ", is allowed, but " + answer);
         }
-    }
-
-    private static String state(WordWright x) {
-        StringBuilder all = new StringBuilder().append(x.digest()).append(' ').append(x.solutions());
-        for (int m = 0; m < x.many(1); m++) {
-            all.append(' ').append(x.breaks(m, 1, 0));
-        }
-        return all.append(' ').append(x.meanSize()).toString();
     }
 
     static Object answer(Call call) {

@@ -6,19 +6,13 @@ import java.util.List;
 public final class DigestBoundsTest {
     private static final BigInteger ROUND = BigInteger.ONE.shiftLeft(64);
 
-    private final WordWright x;
-    private final List<Long> numbers = new ArrayList<>();
-
-    private DigestBoundsTest(WordWright x) {
-        this.x = x;
-    }
-
     public static void main(String[] args) {
         aNewOne();
         wrapsAround();
         withoutANode();
         ofEachMachine();
         changesNothing();
+        theLastCallOfAll();
         Check.end("DigestBoundsTest");
     }
 
@@ -41,32 +35,29 @@ public final class DigestBoundsTest {
                 numbers.add(v);
             }
         }
+        Check.due(numbers, "the numbers of a new one", () -> Numbers.of(Story.empty()));
         Check.due(new WordWright(), unwrapped(numbers).longValue(), "digest");
     }
 
     /** "which wraps around as a 64-bit integer" */
     private static void wrapsAround() {
         for (Story story : new Story[] {Story.empty(), Story.begun(), Story.full()}) {
-            WordWright x = story.told();
-            BigInteger d = unwrapped(new DigestBoundsTest(story.told()).asked());
+            BigInteger d = unwrapped(Numbers.of(story));
             Check.isTrue(d.bitLength() > 640, "d is beyond 64 bits time after time");
             BigInteger rest = d.mod(ROUND);
             long due = rest.testBit(63) ? rest.subtract(ROUND).longValueExact() : rest.longValueExact();
-            Check.due(x, due, "digest");
+            Check.due(story.told(), due, "digest");
         }
     }
 
     /** "then, if there is a NODE, misfit()" */
     private static void withoutANode() {
-        WordWright x = new WordWright();
-        x.schema();
-        x.schema();
-        List<Long> without = new DigestBoundsTest(x).asked();
-        Check.due(x, unwrapped(without).longValue(), "digest");
-        x.node(-1, 3);
-        List<Long> with = new DigestBoundsTest(x).asked();
+        Story story = new Story("with SCHEMAS").then("schema", "schema");
+        List<Long> without = Numbers.of(story);
+        Check.due(story.told(), unwrapped(without).longValue(), "digest");
+        List<Long> with = Numbers.of(story.then("node -1 3"));
         Check.due(without.size() + 2, "numbers with a NODE", with::size);
-        Check.due(x, unwrapped(with).longValue(), "digest");
+        Check.due(story.told(), unwrapped(with).longValue(), "digest");
     }
 
     /** "several() of 2, loop() of 0 and 1, and writes() of the WORDS 1, 5, 22 and the numbers 0 and 1" */
@@ -81,74 +72,38 @@ public final class DigestBoundsTest {
                     story.then("arc " + m + " " + arc);
                 }
             }
-            long due = unwrapped(new DigestBoundsTest(story.told()).asked()).longValue();
-            Check.due(story.told(), due, "digest");
+            Check.due(story.told(), unwrapped(Numbers.of(story)).longValue(), "digest");
         }
+    }
+
+    /** "An object is used for at most 512 calls after it has been made": the 512th is answered as the first one. */
+    private static void theLastCallOfAll() {
+        WordWright x = new WordWright();
+        long due = x.digest();
+        for (int call = 2; call < 512; call++) {
+            Check.due(x, due, "digest");
+        }
+        Check.due(x, due, "digest");
+        // So many calls that change something, and are undone again.
+        WordWright y = new WordWright();
+        for (int call = 0; call < 510; call += 6) {
+            y.equation();
+            y.symbol(0, 0, 3);
+            Check.due(y, 0, "solutions");
+            y.undo();
+            y.step(5, 0, 0, 0);
+            y.clear();
+        }
+        Check.due(y, due, "digest");
     }
 
     private static void changesNothing() {
         for (Story story : new Story[] {Story.empty(), Story.begun(), Story.full()}) {
-            WordWright x = story.told();
-            x.digest();
-            Check.due(story.untouched(), "what can be found out after digest(), " + story, () -> Probe.of(x));
-        }
-    }
-
-    private void ask(String call) {
-        Object answer = Calls.answer(x, call);
-        if (answer instanceof Long) {
-            numbers.add((Long) answer);
-        } else {
-            Check.isTrue(false, call + " answered " + answer);
-        }
-    }
-
-    private List<Long> asked() {
-        for (int what = 0; what <= 9; what++) {
-            ask("many " + what);
-        }
-        for (int l = 0; l < x.many(0); l++) {
-            for (int what = 0; what <= 5; what++) {
-                ask("ofLanguage " + l + " " + what);
-            }
-            ask("howMany " + l + " 2");
-            ask("howMany " + l + " 5");
-            for (int i = 0; i < 4 * x.ofLanguage(l, 0); i++) {
-                ask("next " + l + " " + i / 4 + " " + i % 4);
-            }
-        }
-        for (int m = 0; m < x.many(1); m++) {
-            ask("several " + m + " 2");
-            ask("loop " + m + " 0");
-            ask("loop " + m + " 1");
-            for (int i = 0; i < 6; i++) {
-                ask("writes " + m + " " + new int[] {1, 5, 22}[i / 2] + " " + i % 2);
-            }
-        }
-        for (int v = 0; v < 4; v++) {
-            ask("solved " + v);
-        }
-        askSchemasAndProgram();
-        return numbers;
-    }
-
-    private void askSchemasAndProgram() {
-        for (int s = 0; s < x.many(5); s++) {
-            for (int letter = 0; letter < 4; letter++) {
-                ask("least " + s + " " + letter);
-            }
-            if (x.many(6) > 0) {
-                ask("misfit " + s);
-            }
-            for (int other = 0; other < x.many(5); other++) {
-                ask("within " + s + " " + other);
-            }
-        }
-        for (int i = 0; i < 11 * 3 * 4; i++) {
-            ask("span " + i / 12 + " " + i / 4 % 3 + " " + i % 4);
-        }
-        for (int step = 0; step < x.many(7); step++) {
-            ask("bad " + step);
+            Check.due(story.untouched(), "what can be found out after digest(), " + story, () -> Probe.of(() -> {
+                WordWright x = story.told();
+                x.digest();
+                return x;
+            }));
         }
     }
 }

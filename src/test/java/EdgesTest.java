@@ -33,10 +33,14 @@ public final class EdgesTest {
     private static final List<String> CHANGING = List.of("make", "machine", "arc", "finals", "domain", "equation", "symbol",
         "undo", "schema", "beneath", "node", "step", "clear");
 
+    // No object has more than 512 calls: there are some 250 in a story, and up to 5 for a comparison.
+    private static final int MOST_COMPARISONS = 50;
+
     private final Story story;
     private final long untouched;
     private WordWright x;
     private Oracle o;
+    private int comparisons;
 
     private EdgesTest(Story story) {
         this.story = story;
@@ -57,6 +61,7 @@ public final class EdgesTest {
     private void tell() {
         x = story.told();
         o = story.toldToTheOracle();
+        comparisons = 0;
     }
 
     /** Goes through all choices for the arguments from a place on. */
@@ -76,7 +81,9 @@ public final class EdgesTest {
         Check.due(want, text + " = " + Arrays.toString(args) + ", " + story, () -> Calls.answer(x, name, args));
         if (want instanceof String) {
             Check.due(x, untouched, "digest");
-        } else if (CHANGING.contains(name)) {
+        }
+        comparisons++;
+        if (comparisons == MOST_COMPARISONS || !(want instanceof String) && CHANGING.contains(name)) {
             tell();
         }
     }

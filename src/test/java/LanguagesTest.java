@@ -1,6 +1,7 @@
 import java.util.HashSet;
 import java.util.Set;
 import java.util.function.Predicate;
+import java.util.function.ToIntFunction;
 
 /** Promises 1 to 7, 32 and 33: a new object, and LANGUAGES. */
 public final class LanguagesTest {
@@ -8,6 +9,10 @@ public final class LanguagesTest {
     private static final Class<IllegalStateException> STATE = IllegalStateException.class;
     private static final Class<IndexOutOfBoundsException> INDEX = IndexOutOfBoundsException.class;
     private static final Class<ArithmeticException> ARITHMETIC = ArithmeticException.class;
+
+    private static final int ENDS_WITH_1 = 6;
+    private static final int PAIR = 10;
+    private static final int STAR = 11;
 
     public static void main(String[] args) {
         promise1NewObject();
@@ -45,87 +50,104 @@ public final class LanguagesTest {
         Check.due(x.digest(), "digest() of another one", () -> new WordWright().digest());
     }
 
-    private static void holdsJust(WordWright x, String what, int language, Predicate<String> isIn) {
+    /** Just those of all WORDS up to 5 LETTERS are in the LANGUAGE that is made (by 5 calls at most). */
+    private static void holdsJust(Fresh fresh, String what, ToIntFunction<WordWright> made, Predicate<String> isIn) {
         for (String word : Check.words(5)) {
+            WordWright x = fresh.forCalls(6);
+            int language = made.applyAsInt(x);
             Check.due(isIn.test(word), what + " has " + word, () -> x.has(language, Check.word(word)));
         }
     }
 
-    private static boolean in(WordWright x, int language, String word) {
-        return x.has(language, Check.word(word));
+    /** All WORDS that end with 1 are its LANGUAGE 6; 01 and 120 are 10, and the STAR of that is 11. */
+    private static WordWright withStar() {
+        WordWright x = Check.lettered();
+        Check.due(ENDS_WITH_1, "make", () -> x.make(4, 1, 3));
+        Check.due(PAIR, "make", () -> x.make(5, Check.single(x, "01"), Check.single(x, "120")));
+        Check.due(STAR, "make", () -> x.make(8, PAIR, 0));
+        return x;
     }
 
     private static void promise2Kinds() {
-        WordWright x = Check.lettered();
-        int ends1 = x.make(4, 1, 3);
-        int pairs = x.make(5, Check.single(x, "01"), Check.single(x, "120"));
-        int star = x.make(8, pairs, 0);
-        int some = x.make(5, star, ends1);
-        holdsJust(x, "NONE", x.make(0, 0, 0), w -> false);
-        holdsJust(x, "BLANK", x.make(1, 0, 0), String::isEmpty);
-        holdsJust(x, "LETTER 0", 2, w -> w.equals("0"));
-        holdsJust(x, "LETTER 3", 5, w -> w.equals("3"));
-        holdsJust(x, "ALL", x.make(3, 0, 0), w -> true);
-        holdsJust(x, "ends with 1", ends1, w -> w.endsWith("1"));
-        holdsJust(x, "two WORDS", pairs, w -> w.equals("01") || w.equals("120"));
-        holdsJust(x, "STAR", star, w -> w.matches("(01|120)*"));
-        holdsJust(x, "STAR OR ends", some, w -> w.matches("(01|120)*|.*1"));
-        holdsJust(x, "BOTH", x.make(6, star, ends1), w -> w.matches("(01|120)*") && w.endsWith("1"));
-        holdsJust(x, "WITHOUT", x.make(7, star, ends1), w -> w.matches("(01|120)*") && !w.endsWith("1"));
-        holdsJust(x, "WITHOUT turned round", x.make(7, ends1, star), w -> !w.matches("(01|120)*") && w.endsWith("1"));
-        holdsJust(x, "JOINED", x.make(4, star, 5), w -> w.matches("(01|120)*3"));
-        holdsJust(x, "JOINED with no end", x.make(4, ends1, pairs), w -> w.matches(".*1(01|120)"));
-        holdsJust(x, "JOINED with NONE", x.make(4, star, 0), w -> false);
-        holdsJust(x, "TURNED", x.make(9, star, 0), w -> w.matches("(10|021)*"));
-        holdsJust(x, "TURNED ends", x.make(9, ends1, 0), w -> w.startsWith("1"));
-        holdsJust(x, "HEADS", x.make(10, pairs, 0), w -> w.matches("|0|01|1|12|120"));
-        holdsJust(x, "HEADS of a STAR", x.make(10, star, 0), w -> w.matches("(01|120)*(|0|1|12)"));
-        holdsJust(x, "HEADS of NONE", x.make(10, 0, 0), w -> false);
-        holdsJust(x, "STAR of NONE", x.make(8, 0, 0), String::isEmpty);
-        holdsJust(x, "STAR of ALL", x.make(8, 1, 0), w -> true);
-        promise2MachineKinds(x, star, ends1);
+        Fresh f = new Fresh(LanguagesTest::withStar, 10);
+        holdsJust(f, "NONE", x -> x.make(0, 0, 0), w -> false);
+        holdsJust(f, "BLANK", x -> x.make(1, 0, 0), String::isEmpty);
+        holdsJust(f, "LETTER 0", x -> 2, w -> w.equals("0"));
+        holdsJust(f, "LETTER 3", x -> 5, w -> w.equals("3"));
+        holdsJust(f, "ALL", x -> x.make(3, 0, 0), w -> true);
+        holdsJust(f, "ends with 1", x -> ENDS_WITH_1, w -> w.endsWith("1"));
+        holdsJust(f, "two WORDS", x -> PAIR, w -> w.equals("01") || w.equals("120"));
+        holdsJust(f, "STAR", x -> STAR, w -> w.matches("(01|120)*"));
+        holdsJust(f, "OR", x -> x.make(5, STAR, ENDS_WITH_1), w -> w.matches("(01|120)*|.*1"));
+        holdsJust(f, "BOTH", x -> x.make(6, STAR, ENDS_WITH_1), w -> w.matches("(01|120)*") && w.endsWith("1"));
+        holdsJust(f, "WITHOUT", x -> x.make(7, STAR, ENDS_WITH_1), w -> w.matches("(01|120)*") && !w.endsWith("1"));
+        holdsJust(f, "WITHOUT the other way", x -> x.make(7, ENDS_WITH_1, STAR),
+            w -> !w.matches("(01|120)*") && w.endsWith("1"));
+        holdsJust(f, "JOINED", x -> x.make(4, STAR, 5), w -> w.matches("(01|120)*3"));
+        holdsJust(f, "JOINED with no end", x -> x.make(4, ENDS_WITH_1, PAIR), w -> w.matches(".*1(01|120)"));
+        holdsJust(f, "JOINED with NONE", x -> x.make(4, STAR, 0), w -> false);
+        holdsJust(f, "TURNED", x -> x.make(9, STAR, 0), w -> w.matches("(10|021)*"));
+        holdsJust(f, "TURNED ends", x -> x.make(9, ENDS_WITH_1, 0), w -> w.startsWith("1"));
+        holdsJust(f, "HEADS", x -> x.make(10, PAIR, 0), w -> w.matches("|0|01|1|12|120"));
+        holdsJust(f, "HEADS of a STAR", x -> x.make(10, STAR, 0), w -> w.matches("(01|120)*(|0|1|12)"));
+        holdsJust(f, "HEADS of NONE", x -> x.make(10, 0, 0), w -> false);
+        holdsJust(f, "STAR of NONE", x -> x.make(8, 0, 0), String::isEmpty);
+        holdsJust(f, "STAR of ALL", x -> x.make(8, 1, 0), w -> true);
+        promise2Out();
+        promise2IntoAndRead();
+        promise2SilentArcs();
     }
 
-    private static void promise2MachineKinds(WordWright x, int star, int ends1) {
-        int m = x.machine();
-        x.arc(m, 0, 0, 0, 1);
-        x.arc(m, 0, 1, 1, 2);
-        x.arc(m, 1, 1, 0, 0);
-        x.arc(m, 1, 0, 1, 3);
-        x.arc(m, 0, 1, 0, 0);
-        x.finals(m, 3);
-        int from = x.make(4, ends1, x.make(8, 2, 0));
-        int out = x.make(11, m, from);
+    private static WordWright withMachine(int[][] arcs, int finals) {
+        WordWright x = withStar();
+        x.machine();
+        for (int[] a : arcs) {
+            x.arc(0, a[0], a[1], a[2], a[3]);
+        }
+        x.finals(0, finals);
+        return x;
+    }
+
+    private static void promise2Out() {
+        int[][] arcs = {{0, 0, 0, 1}, {0, 1, 1, 2}, {1, 1, 0, 0}, {1, 0, 1, 3}, {0, 1, 0, 0}};
+        Fresh f = new Fresh(() -> withMachine(arcs, 3), 20);
+        // Of what ends with 1, and 0 behind that. Each ARC writes one LETTER: so what is written is as long.
+        ToIntFunction<WordWright> from = x -> x.make(4, ENDS_WITH_1, x.make(8, 2, 0));
         Set<Integer> written = new HashSet<>();
         for (String read : Check.words(5)) {
-            for (int k = 0; in(x, from, read) && k < 32; k++) {
-                written.add(x.writes(m, Check.word(read), k));
+            WordWright x = f.forCalls(35);
+            boolean isRead = x.has(from.applyAsInt(x), Check.word(read));
+            for (int k = 0; isRead && k < 32; k++) {
+                written.add(x.writes(0, Check.word(read), k));
             }
         }
-        // Each ARC writes one LETTER, so that what has n LETTERS is written for what has n.
-        holdsJust(x, "OUT", out, w -> written.contains(Check.word(w)));
-        x.arc(m, 1, 2, 1, -1);
-        int into = x.make(12, m, star);
-        holdsJust(x, "INTO", into, w -> {
+        holdsJust(f, "OUT", x -> x.make(11, 0, from.applyAsInt(x)), w -> written.contains(Check.word(w)));
+        Fresh g = new Fresh(() -> withMachine(new int[0][], 15), 20);
+        holdsJust(g, "OUT without ARCS", x -> x.make(11, 0, 1), String::isEmpty);
+    }
+
+    private static void promise2IntoAndRead() {
+        int[][] arcs = {{0, 0, 0, 1}, {0, 1, 1, 2}, {1, 1, 0, 0}, {1, 0, 1, 3}, {0, 1, 0, 0}, {1, 2, 1, -1}};
+        Fresh f = new Fresh(() -> withMachine(arcs, 3), 20);
+        holdsJust(f, "INTO", x -> x.make(12, 0, STAR), w -> {
+            WordWright x = f.forCalls(64);
             for (int k = 0; k < 32; k++) {
-                int wrote = x.writes(m, Check.word(w), k);
-                if (wrote != 0 && x.has(star, wrote)) {
+                int wrote = x.writes(0, Check.word(w), k);
+                if (wrote != 0 && x.has(STAR, wrote)) {
                     return true;
                 }
             }
             return false;
         });
-        x.finals(m, 2);
-        holdsJust(x, "READ", x.make(13, m, 0), w -> x.writes(m, Check.word(w), 0) != 0);
-        holdsJust(x, "OUT with ARCS that write nothing", x.make(11, x.machine(), 1), w -> false);
-        int n = x.machine();
-        x.arc(n, 0, 0, 1, -1);
-        x.arc(n, 1, 1, 2, -1);
-        x.arc(n, 2, 2, 0, 3);
-        x.finals(n, 4);
-        holdsJust(x, "OUT of silent ARCS", x.make(11, n, 1), w -> w.matches("3*"));
-        Check.due(2, "wouldSize(11) of silent ARCS", () -> x.wouldSize(11, n, 1));
-        holdsJust(x, "INTO of silent ARCS", x.make(12, n, x.make(8, 5, 0)), w -> w.matches("(012)*01"));
+        Fresh g = new Fresh(() -> withMachine(arcs, 2), 20);
+        holdsJust(g, "READ", x -> x.make(13, 0, 0), w -> g.forCalls(1).writes(0, Check.word(w), 0) != 0);
+    }
+
+    private static void promise2SilentArcs() {
+        Fresh f = new Fresh(() -> withMachine(new int[][] {{0, 0, 1, -1}, {1, 1, 2, -1}, {2, 2, 0, 3}}, 4), 20);
+        holdsJust(f, "OUT of silent ARCS", x -> x.make(11, 0, 1), w -> w.matches("3*"));
+        Check.due(2, "wouldSize(11) of silent ARCS", () -> f.forCalls(1).wouldSize(11, 0, 1));
+        holdsJust(f, "INTO of silent ARCS", x -> x.make(12, 0, x.make(8, 5, 0)), w -> w.matches("(012)*01"));
     }
 
     private static void promise2Numbers() {

@@ -1,21 +1,29 @@
 import java.util.function.IntSupplier;
+import java.util.function.Supplier;
 
-/** Asks for all that can be found out of an object, also by calls that change it: it is of no use behind that. */
+/** Asks for all that can be found out of an object, also by calls that change it; for each part there is a new one. */
 final class Probe {
-    private final WordWright x;
     private final StringBuilder found = new StringBuilder();
+    private WordWright x;
 
-    private Probe(WordWright x) {
-        this.x = x;
+    private Probe() {
     }
 
-    static String of(WordWright x) {
-        Probe probe = new Probe(x);
-        probe.found.append(x.digest()).append(' ').append(x.meanSize());
-        probe.askMachines();
+    /** Each object that the maker makes has had 250 calls at most, so that each part may have as many. */
+    static String of(Supplier<WordWright> maker) {
+        Probe probe = new Probe();
+        probe.x = maker.get();
+        int machines = probe.x.many(1);
+        probe.askAll();
+        for (int m = 0; m < machines; m++) {
+            probe.x = maker.get();
+            probe.askMachine(m);
+        }
+        probe.x = maker.get();
         probe.askEquations();
-        probe.askProgram();
+        probe.x = maker.get();
         probe.askSchemas();
+        probe.x = maker.get();
         probe.addAll();
         return probe.found.toString();
     }
@@ -33,35 +41,38 @@ final class Probe {
         found.append(' ').append(times);
     }
 
-    /** What they write with all STATES as FINAL ones tells the ARCS. */
-    private void askMachines() {
-        for (int m = 0; m < x.many(1); m++) {
-            int machine = m;
-            note(() -> x.breaks(machine, 1, 0));
-            note(() -> x.wouldSize(13, machine, 0));
-            for (int ends : new int[] {15, 1, 2, 4, 8}) {
-                note(() -> x.finals(machine, ends));
-                for (int i = 0; i < 21; i++) {
-                    int word = Check.word(Check.words(2)[i]);
-                    note(() -> x.writes(machine, word, 0));
-                    note(() -> x.writes(machine, word, 1));
-                }
+    private void askAll() {
+        found.append(x.digest()).append(' ').append(x.meanSize());
+        for (int what = 0; what <= 9; what++) {
+            int w = what;
+            note(() -> x.many(w));
+        }
+        note(x::solutions);
+        for (int i = 0; i < 12; i++) {
+            int variable = i / 3;
+            int most = i % 3;
+            note(() -> x.solutionsWith(variable, most));
+        }
+    }
+
+    /** What it writes with all, or each one, of the STATES as FINAL ones tells the ARCS. */
+    private void askMachine(int machine) {
+        note(() -> x.breaks(machine, 1, 0));
+        note(() -> x.wouldSize(13, machine, 0));
+        for (int ends : new int[] {15, 1, 2, 4, 8}) {
+            note(() -> x.finals(machine, ends));
+            for (int i = 0; i < 21; i++) {
+                int word = Check.word(Check.words(2)[i]);
+                note(() -> x.writes(machine, word, 0));
+                note(() -> x.writes(machine, word, 1));
             }
         }
     }
 
     private void askEquations() {
-        note(x::solutions);
         for (int v = 0; v < 4; v++) {
             int variable = v;
             note(() -> x.solved(variable));
-            for (int most = 0; most <= 2; most++) {
-                int m = most;
-                note(() -> x.solutionsWith(variable, m));
-            }
-        }
-        for (int v = 0; v < 4; v++) {
-            int variable = v;
             note(() -> x.domain(variable, 1, 1));
         }
         for (int e = x.many(3); e > 0; e--) {
@@ -71,15 +82,6 @@ final class Probe {
             noteTimes(() -> x.symbol(equation, 1, 0));
             note(x::undo);
         }
-    }
-
-    private void askProgram() {
-        for (int s = 0; s < x.many(7); s++) {
-            int step = s;
-            note(() -> x.bad(step));
-        }
-        noteTimes(() -> x.step(5, 0, 0, 0));
-        note(x::clear);
     }
 
     /** A SCHEMA with nothing beneath one LETTER, and all beneath the others, tells the first NODE with that LETTER. */
@@ -103,6 +105,8 @@ final class Probe {
     }
 
     private void addAll() {
+        noteTimes(() -> x.step(5, 0, 0, 0));
+        note(x::clear);
         for (int m = 0; m < x.many(1); m++) {
             int machine = m;
             noteTimes(() -> x.arc(machine, 0, 0, 0, 0));

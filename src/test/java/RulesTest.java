@@ -69,6 +69,23 @@ public final class RulesTest {
 
     /** What a constructor makes is used again: the calls themselves make next to nothing. */
     private static void checkRoom() {
+        WordWright[] ready = new WordWright[40];
+        for (int i = 0; i < ready.length; i++) {
+            ready[i] = readyToAsk();
+        }
+        askAll(readyToAsk());
+        com.sun.management.ThreadMXBean bean = (com.sun.management.ThreadMXBean) ManagementFactory.getThreadMXBean();
+        long before = bean.getThreadAllocatedBytes(Thread.currentThread().getId());
+        for (WordWright x : ready) {
+            for (int i = 0; i < 20; i++) {
+                askAll(x);
+            }
+        }
+        long bytes = bean.getThreadAllocatedBytes(Thread.currentThread().getId()) - before;
+        Check.isTrue(bytes < 100_000, "calls make next to nothing, but " + bytes + " bytes");
+    }
+
+    private static WordWright readyToAsk() {
         WordWright x = Check.lettered();
         int word = Check.single(x, "0123");
         x.machine();
@@ -82,14 +99,7 @@ public final class RulesTest {
         x.step(3, 0, 0, 0);
         x.step(4, 0, word, 1);
         x.equation();
-        askAll(x);
-        com.sun.management.ThreadMXBean bean = (com.sun.management.ThreadMXBean) ManagementFactory.getThreadMXBean();
-        long before = bean.getThreadAllocatedBytes(Thread.currentThread().getId());
-        for (int i = 0; i < 512; i++) {
-            askAll(x);
-        }
-        long bytes = bean.getThreadAllocatedBytes(Thread.currentThread().getId()) - before;
-        Check.isTrue(bytes < 100_000, "calls make next to nothing, but " + bytes + " bytes");
+        return x;
     }
 
     private static void askAll(WordWright x) {

@@ -28,7 +28,7 @@ final class Story {
     /** All that can be found out behind it. */
     String untouched() {
         if (untouched == null) {
-            untouched = Probe.of(told());
+            untouched = Probe.of(this::told);
         }
         return untouched;
     }
@@ -42,6 +42,15 @@ final class Story {
             }
         }
         return x;
+    }
+
+    /** Objects behind the story, for calls that change nothing. */
+    Fresh fresh() {
+        int count = 0;
+        for (String call : calls) {
+            count += Calls.count(call);
+        }
+        return new Fresh(this::told, count);
     }
 
     Oracle toldToTheOracle() {
